@@ -58,6 +58,13 @@ public final class ChoicesTest {
         Check.due("no seat", x.nearest(0, 1), Check.BEYOND);
         Check.due("nobody", x.nearest(3, 0), Check.BEYOND);
         Check.due("he stays where he was", x.of(0, 1), 4);
+        ChairDance y = new ChairDance();
+        y.seat(0, 1);
+        y.comes(0, 0, 50);
+        y.comes(0, 5, 50);
+        Check.due("as near, but not the least", y.nearest(1, 0), Check.NONE);
+        y.set(0, 1, 1);
+        Check.due("only spot 0", y.nearest(1, 0), 0);
     }
 
     private static void place() {
@@ -186,6 +193,7 @@ public final class ChoicesTest {
         Check.due("nobody", x.will(4, 1), Check.BEYOND);
         Check.due("nobody", x.will(-1, 1), Check.BEYOND);
         Check.due("100 seconds", x.will(1, 100) >= -1 ? 1 : 0, 1);
+        Check.due("1 second", x.will(0, 1), -1);
     }
 
     private static void kind() {

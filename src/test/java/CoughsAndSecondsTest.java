@@ -157,6 +157,14 @@ public final class CoughsAndSecondsTest {
         x.seconds(1);
         Check.due("a page is in a page's way", x.of(2, 1), 5);
         Check.due("others go on", x.of(1, 1), 2);
+        ChairDance z = new ChairDance();
+        z.seat(9, 1);
+        z.comes(2, 2, 0);
+        z.comes(0, 9, 0);
+        z.comes(0, 0, 0);
+        z.set(2, 3, 0);
+        z.seconds(5);
+        Check.due("the first of the court is in the way, too", z.of(2, 1), 1);
         ChairDance y = new ChairDance();
         y.seat(1, 0);
         y.seat(9, 0);

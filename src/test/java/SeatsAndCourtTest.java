@@ -150,6 +150,8 @@ public final class SeatsAndCourtTest {
         Check.due("spot is", x.of(0, 1), 99);
         Check.due("toes were", x.set(0, 2, 99), 3);
         Check.due("toes are", x.of(0, 2), 99);
+        Check.due("none", x.set(0, 2, 0), 99);
+        Check.due("all", x.set(0, 2, 99), 0);
         Check.due("will was", x.set(0, 3, 0), -1);
         Check.due("will was then", x.set(0, 3, -1), 0);
         Check.due("will is", x.of(0, 3), -1);

@@ -36,8 +36,10 @@ public final class SheetsTest {
             Check.due("none of " + bits, x.sheet(2, bits, 0), 0);
         }
         Check.due("it stands as it was", x.write(3, 39, 5), 0);
+        x.write(3, 0, 6);
         Check.due("anew", x.sheet(3, 64, 40), 40);
         Check.due("all 0", x.write(3, 39, 5), 0);
+        Check.due("the first, too", x.write(3, 0, 5), 0);
         Check.due("gone", x.sheet(3, 0, 7), 0);
         Check.due("missing", x.write(3, 0, 5), Check.MISSING);
     }
@@ -152,6 +154,8 @@ public final class SheetsTest {
         Check.due("he has risen for the third", x.write(1, 0, 0), -1);
         Check.due("the other sits", x.write(1, 1, 0), 1);
         Check.due("nothing went on", x.now(0), 0);
+        Check.due("0", x.roll(0, 0), 3);
+        Check.due("held by nobody yet", x.write(0, 1, 0), -1);
         Check.due("200", x.roll(0, 200), 3);
         Check.due("201", x.roll(0, 201), Check.BEYOND);
         Check.due("-1", x.roll(0, -1), Check.BEYOND);

@@ -120,6 +120,10 @@ public final class TextTest {
         fault("seatt 6", 0);
         fault("sea 6", 0);
         fault("seatworth 6", 0);
+        fault("xeat 6", 0);
+        fault("seatz 6", 0);
+        fault("zseat 6", 0);
+        fault("aseat 6", 0);
         fault("Seat 6", 0);
         fault("seat 6,", 6);
         fault("seat\t6", 4);
