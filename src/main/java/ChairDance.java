@@ -13,7 +13,8 @@ public final class ChairDance {
     private static final int SIZE = 6;
     private static final int FINDINGS = 7;
 
-    private static final int NOBODY = -1;
+    /** What stands for no holder, no seat, no spot and no kind. */
+    private static final int ABSENT = -1;
     private static final int COURTIER = 0;
     private static final int FAT = 1;
     private static final int PAGE = 2;
@@ -68,7 +69,7 @@ public final class ChairDance {
         if (!isSpot(spot) || !isFromTo(worth, 0, MOST_WORTH)) {
             return finding(BEYOND);
         }
-        if (present.seatOn(spot) != NOBODY) {
+        if (present.seatOn(spot) != ABSENT) {
             return finding(STATE);
         }
         if (present.hasAllSeats()) {
@@ -163,7 +164,7 @@ public final class ChairDance {
     }
 
     private int changeWill(One him, int seat) {
-        if (seat != NOBODY && !isSeat(seat)) {
+        if (seat != ABSENT && !isSeat(seat)) {
             return finding(BEYOND);
         }
         int was = him.will;
@@ -343,14 +344,14 @@ public final class ChairDance {
         }
         trial.become(present);
         int from = present.ones[one].spot;
-        int nearest = NOBODY;
+        int nearest = ABSENT;
         for (int spot = 0; spot < SPOTS; spot++) {
-            boolean isNearer = nearest == NOBODY || steps(from, spot) < steps(from, nearest);
+            boolean isNearer = nearest == ABSENT || steps(from, spot) < steps(from, nearest);
             if (isNearer && isNextInTrialFrom(one, spot, seat)) {
                 nearest = spot;
             }
         }
-        return nearest == NOBODY ? finding(NONE) : nearest;
+        return nearest == ABSENT ? finding(NONE) : nearest;
     }
 
     public int place(int one, int spot) {
@@ -391,14 +392,14 @@ public final class ChairDance {
         if (present.ones[one].sits()) {
             return finding(STATE);
         }
-        int best = NOBODY;
+        int best = ABSENT;
         for (int s = 0; s < present.seatCount; s++) {
-            boolean isBetter = best == NOBODY || present.seats[s].worth > present.seats[best].worth;
+            boolean isBetter = best == ABSENT || present.seats[s].worth > present.seats[best].worth;
             if (isBetter && present.isHeld(s) && present.nextFor(s) == one) {
                 best = s;
             }
         }
-        return best == NOBODY ? finding(NONE) : best;
+        return best == ABSENT ? finding(NONE) : best;
     }
 
     public int twice(int one, int seat) {
@@ -424,9 +425,9 @@ public final class ChairDance {
         if (isTooLateFor(n)) {
             return finding(STATE);
         }
-        int best = NOBODY;
+        int best = ABSENT;
         int most = -1;
-        for (int seat = NOBODY; seat < present.seatCount; seat++) {
+        for (int seat = ABSENT; seat < present.seatCount; seat++) {
             trial.become(present);
             trial.ones[one].will = seat;
             trial.pass(n);
@@ -563,7 +564,7 @@ public final class ChairDance {
         int came = 0;
         for (int i = 0; i < last; i++) {
             long seat = sheets[s].numbers[i];
-            if (seat >= NOBODY && seat < present.seatCount) {
+            if (seat >= ABSENT && seat < present.seatCount) {
                 present.ones[i].will = (int) seat;
                 came++;
             }
@@ -736,9 +737,9 @@ public final class ChairDance {
             kind = ofKind;
             spot = at;
             toes = withToes;
-            will = NOBODY;
+            will = ABSENT;
             coins = 0;
-            seat = NOBODY;
+            seat = ABSENT;
             sat = 0;
         }
 
@@ -764,11 +765,11 @@ public final class ChairDance {
         }
 
         boolean sits() {
-            return seat != NOBODY;
+            return seat != ABSENT;
         }
 
         boolean mayTakeSeat() {
-            return seat == NOBODY && kind != PAGE;
+            return seat == ABSENT && kind != PAGE;
         }
 
         int leans() {
@@ -864,7 +865,7 @@ public final class ChairDance {
             Seat added = seats[seatCount];
             added.spot = spot;
             added.worth = worth;
-            added.holder = NOBODY;
+            added.holder = ABSENT;
             return seatCount++;
         }
 
@@ -880,23 +881,23 @@ public final class ChairDance {
                     return s;
                 }
             }
-            return NOBODY;
+            return ABSENT;
         }
 
         boolean isHeld(int seat) {
-            return seats[seat].holder != NOBODY;
+            return seats[seat].holder != ABSENT;
         }
 
         int nextFor(int seat) {
             int spot = seats[seat].spot;
-            int next = NOBODY;
+            int next = ABSENT;
             int least = 0;
             for (int i = 0; i < oneCount; i++) {
                 if (!ones[i].mayTakeSeat()) {
                     continue;
                 }
                 int far = ones[i].distance(spot);
-                if (next == NOBODY || far < least
+                if (next == ABSENT || far < least
                         || far == least && ones[i].toes > ones[next].toes) {
                     next = i;
                     least = far;
@@ -907,7 +908,7 @@ public final class ChairDance {
 
         void fall(int seat, int next) {
             seats[seat].holder = next;
-            if (next != NOBODY) {
+            if (next != ABSENT) {
                 ones[next].seat = seat;
                 ones[next].spot = seats[seat].spot;
                 ones[next].sat = 0;
@@ -916,12 +917,12 @@ public final class ChairDance {
 
         void makeRise(int seat) {
             int holder = seats[seat].holder;
-            if (holder == NOBODY) {
+            if (holder == ABSENT) {
                 return;
             }
             // Asked while the holder still sits, for he is not to be next himself.
             int next = nextFor(seat);
-            ones[holder].seat = NOBODY;
+            ones[holder].seat = ABSENT;
             ones[holder].sat = 0;
             fall(seat, next);
         }
@@ -937,7 +938,7 @@ public final class ChairDance {
 
         void walkAll() {
             for (int i = 0; i < oneCount; i++) {
-                if (!ones[i].sits() && ones[i].will != NOBODY) {
+                if (!ones[i].sits() && ones[i].will != ABSENT) {
                     walk(ones[i], seats[ones[i].will].spot);
                 }
             }
@@ -966,7 +967,7 @@ public final class ChairDance {
         void changeSeats() {
             for (int s = 0; s < seatCount; s++) {
                 int holder = seats[s].holder;
-                if (holder == NOBODY) {
+                if (holder == ABSENT) {
                     fall(s, nextFor(s));
                 } else if (ones[holder].sat >= ones[holder].stays()) {
                     makeRise(s);
@@ -1082,7 +1083,7 @@ public final class ChairDance {
                 return false;
             }
             advance();
-            if (!isNumberBelow(SPOTS) || hall.seatOn(number) != NOBODY) {
+            if (!isNumberBelow(SPOTS) || hall.seatOn(number) != ABSENT) {
                 return false;
             }
             int spot = number;
@@ -1112,7 +1113,7 @@ public final class ChairDance {
 
         private boolean enterOne(Hall hall) {
             int kind = kindNamed();
-            if (kind == NOBODY || hall.hasAllOnes()) {
+            if (kind == ABSENT || hall.hasAllOnes()) {
                 return false;
             }
             advance();
@@ -1150,7 +1151,7 @@ public final class ChairDance {
                     return kind;
                 }
             }
-            return NOBODY;
+            return ABSENT;
         }
 
         private static String nameOf(int kind) {
