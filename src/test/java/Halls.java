@@ -69,6 +69,14 @@ final class Halls {
         return x -> goTo(x, second);
     }
 
+    /** No seats, and a page alone. */
+    static Consumer<ChairDance> emptyAndOneAt(int second) {
+        return x -> {
+            x.comes(2, 0, 0);
+            goTo(x, second);
+        };
+    }
+
     /** Seat 0 on 44, 0 a courtier, 1 a page on 40; one sheet of 3 numbers, another of none. */
     static Consumer<ChairDance> lateAt(int second) {
         return x -> {
