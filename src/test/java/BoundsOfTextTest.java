@@ -152,7 +152,7 @@ public final class BoundsOfTextTest {
             x.comes(1, 8, 9);
             x.set(4, 3, 1);
         });
-        items("seat 7 7".replace(" ", "").replace("seat", "seat "), 1, x -> x.seat(77, 5));
+        items("seat 77", 1, x -> x.seat(77, 5));
         fault("seat 7 7", 7);
         fault("seatworth 7", 0);
         fault("sea t 7", 0);
