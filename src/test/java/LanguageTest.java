@@ -9,6 +9,7 @@ import java.util.ArrayList;
 import java.util.List;
 import java.util.Set;
 import java.util.TreeSet;
+import java.util.regex.Matcher;
 import java.util.regex.Pattern;
 
 /** The rules of LANGUAGE.md that can be seen from outside: the face, the classes, the words. */
@@ -25,6 +26,16 @@ public final class LanguageTest {
         "int lays(int)", "int roll(int,int)", "int read(int,int)", "int image()", "int undo()",
         "int tear()", "int count(int)", "int status(int)",
     };
+    /** What the interface says ahead of which calls. */
+    private static final String[][] HEADINGS = {
+        {"---- seats, the court", "seat seatOf worth comes of set turn as far on"},
+        {"---- coughs, seconds", "cough seconds now"},
+        {"---- on", "holder where coins gets rich"},
+        {"---- where to stand, whom to cough at", "spots nearest place best coughFor twice will kind guard"},
+        {"---- the text", "feed wipe hall"},
+        {"---- sheets", "sheet write copy lays roll read"},
+        {"---- images", "image undo tear count status"},
+    };
     private static final String[] NEVER = {
         "\\b(throw|throws|try|catch|finally|synchronized|assert|import|package|protected|Object)\\b",
         "\\bSystem\\.(?!arraycopy\\b)", "->", "::", "@", "Exact\\b",
@@ -32,6 +43,7 @@ public final class LanguageTest {
 
     public static void main(String[] args) throws IOException {
         face();
+        headings();
         members();
         words();
         Check.end();
@@ -56,6 +68,29 @@ public final class LanguageTest {
         Check.due("one constructor", made.length, 1);
         Check.due("public", made[0].getModifiers(), Modifier.PUBLIC);
         Check.due("without parameters", made[0].getParameterCount(), 0);
+    }
+
+    private static void headings() throws IOException {
+        List<String> due = new ArrayList<>();
+        for (String[] h : HEADINGS) {
+            for (String call : h[1].split(" ")) {
+                due.add(h[0] + ": " + call);
+            }
+        }
+        List<String> got = new ArrayList<>();
+        String heading = "";
+        Pattern call = Pattern.compile(" {4}public (?:int|long) (\\w+)\\(.*");
+        for (String line : Files.readAllLines(Path.of("src/main/java/ChairDance.java"))) {
+            heading = line.startsWith("    // ---- ") ? line.substring(7) : heading;
+            Matcher m = call.matcher(line);
+            if (m.matches()) {
+                got.add(heading + ": " + m.group(1));
+            }
+        }
+        Check.due("calls of the face", got.size(), due.size());
+        for (int i = 0; i < Math.min(got.size(), due.size()); i++) {
+            Check.due(got.get(i) + " for " + due.get(i), got.get(i).equals(due.get(i)) ? 1 : 0, 1);
+        }
     }
 
     private static String signature(Method m) {
