@@ -1,6 +1,16 @@
 /** Every call in a hall of 6 seats and 10 in the court, and on full tapes and sheets. */
 public final class FullHallTest {
     public static void main(String[] args) {
+        ask(hall());
+        ask(seated());
+        ask(later());
+        sheets(seated());
+        tape(seated());
+        images(seated());
+        Check.end();
+    }
+
+    private static ChairDance hall() {
         ChairDance x = new ChairDance();
         for (int s = 0; s < 6; s++) {
             x.seat(11 * s, 10 * s);
@@ -9,20 +19,31 @@ public final class FullHallTest {
             x.comes(i % 6, 99 - i, i);
             x.set(i, 3, i % 6);
         }
-        x.comes(0, 0, 0);
-        ask(x);
-        Check.due("they sit", x.seconds(1), 6);
-        ask(x);
-        sheets(x);
-        tape(x);
-        Check.due("image", x.image(), 1);
-        Check.due("second", x.seconds(200) >= 0 ? x.now(0) : -1, 201);
-        ask(x);
-        Check.due("undo", x.undo(), 10);
-        Check.due("second", x.now(0), 1);
-        Check.end();
+        Check.due("an 11th", x.comes(0, 0, 0), Check.FULL);
+        return x;
     }
 
+    private static ChairDance seated() {
+        ChairDance x = hall();
+        Check.due("they sit", x.seconds(1), 6);
+        return x;
+    }
+
+    private static ChairDance later() {
+        ChairDance x = seated();
+        x.seconds(200);
+        return x;
+    }
+
+    private static void images(ChairDance x) {
+        Check.due("image", x.image(), 1);
+        x.seconds(200);
+        Check.due("200 seconds later", x.now(0), 201);
+        Check.due("undo", x.undo(), 10);
+        Check.due("second", x.now(0), 1);
+    }
+
+    /** Some 450 calls; the object has no more than 512 in all. */
     private static void ask(ChairDance x) {
         int findings = x.status(0);
         int coins = 0;
@@ -71,8 +92,9 @@ public final class FullHallTest {
         String[] ends = {"a", "7", " ", ";"};
         int[] faults = {0, 0, 120, 0};
         for (int e = 0; e < ends.length; e++) {
-            for (int i = 0; i < 120; i++) {
-                x.feed(ends[e].charAt(0), 1);
+            int b = ends[e].charAt(0);
+            for (int i = 0; i < 30; i++) {
+                x.feed(b << 24 | b << 16 | b << 8 | b, 4);
             }
             Check.due("120 of '" + ends[e] + "'", x.hall(), -1 - faults[e]);
         }
